@@ -608,8 +608,9 @@ public final class CosyAsylum {
         /** Which cosy each of the hunted is under, or FREE or TAKEN. */
         private final int[] covers = new int[MOST_HUNTED];
         private final int[] sheriffCells = new int[MOST_SHERIFFS];
-        /** How many more each cosy holds; counted anew in each hour, so no copy keeps it. */
+        /** How many more each cosy holds, and how many are under it; counted anew in each hour, so no copy keeps them. */
         private final int[] rooms = new int[MOST_COSIES];
+        private final int[] unders = new int[MOST_COSIES];
         private int cosies = 0;
         private int hunted = 0;
         private int sheriffs = 0;
@@ -759,8 +760,19 @@ public final class CosyAsylum {
 
         private void countRooms() {
             for (int k = 0; k < cosies; k++) {
-                rooms[k] = holds(k) - manyUnder(k);
+                rooms[k] = holds(k);
+                unders[k] = 0;
             }
+            for (int p = 0; p < hunted; p++) {
+                if (isIn(covers[p], 0, cosies - 1)) {
+                    fill(covers[p]);
+                }
+            }
+        }
+
+        private void fill(int k) {
+            rooms[k]--;
+            unders[k]++;
         }
 
         private void flee(int p, int choice) {
@@ -776,7 +788,7 @@ public final class CosyAsylum {
             }
             if (cosyCells[k] == cell) {
                 covers[p] = k;
-                rooms[k]--;
+                fill(k);
             } else if (choice != STAY) {
                 huntedCells[p] = Cells.step(cell, cosyCells[k]);
             }
@@ -825,7 +837,7 @@ public final class CosyAsylum {
         }
 
         private void wearOut(int k) {
-            int under = manyUnder(k);
+            int under = unders[k];
             wears[k] = Math.min(MOST_WEAR, wears[k] + Kinds.wearsInAnHour(kinds[k], under));
             int most = holds(k);
             for (int p = hunted - 1; p >= 0 && under > most; p--) {
@@ -1152,6 +1164,7 @@ public final class CosyAsylum {
                     draft.setWear(numbers[0], numbers[1]);
                     break;
                 default:
+                    break;
             }
             items++;
             word = NONE;

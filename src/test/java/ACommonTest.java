@@ -58,6 +58,11 @@ public final class ACommonTest {
         c.due("cosy(0, 0, 1)", x.cosy(0, 0, 1), 0);
         c.due("of(0, 3)", x.of(0, 3), 0);
         c.due("hunted(0)", x.hunted(0), 0);
+        x.hour(3);
+        c.due("common()", x.common(), 1);
+        x.cosy(0, 0, 1);
+        c.due("of(0, 3): the wear of the last one there is gone", x.of(0, 3), 0);
+        x.hunted(0);
         c.due("about(0, 1)", x.about(0, 1), -1);
     }
 
@@ -275,5 +280,15 @@ public final class ACommonTest {
         fault("common;cosy 0 /", 14);
         fault("common;cosy 0 :", 14);
         fault("common;cosyhunted 0;", 7);
+        fault("commonz;", 0);
+        fault("common;huntedz 0;", 7);
+        fault("common;hunteda 0;", 7);
+        fault("common;hunted{ 0;", 13);
+        fault("common;hunted` 0;", 13);
+        fault("dommon;", 0);
+        fault("common;rosy 0 0 1;", 7);
+        fault("common;gunted 0;", 7);
+        fault("common;theriff 0;", 7);
+        fault("common;cosy 0 0 1;year 0 0;", 18);
     }
 }

@@ -109,6 +109,12 @@ public final class HoursTest {
         c.due("hour(1)", x.hour(1), 3);
         c.due("where(0)", x.where(0), 1);
         c.due("where(1)", x.where(1), 6);
+        x = Check.told("common;hunted 1;hunted 6;sheriff 0;");
+        c.due("hour(1)", x.hour(1), 1);
+        c.due("where(0)", x.where(0), 1);
+        x = Check.told("common;hunted 6;hunted 1;sheriff 0;");
+        c.due("hour(1)", x.hour(1), 1);
+        c.due("where(0)", x.where(0), 6);
         // one under a cosy is not taken, one beside it is
         x = Check.told("common;cosy 0 8 1;hunted 8;hunted 8;sheriff 8;");
         c.due("hour(1)", x.hour(1), 1);

@@ -8,6 +8,7 @@ public final class WhatComesTest {
         place();
         run();
         runsOfFourHours();
+        notOffTheCommon();
         stitches();
         c.finish();
     }
@@ -198,6 +199,17 @@ public final class WhatComesTest {
         row(Check.told("common;cosy 0 13 1;hunted 0;"), 0, 0, 1, 1, 4);
         c.due("run(0, -1): five hours", Check.told("common;cosy 0 4 1;hunted 0;").run(0, -1), -1);
         c.due("run(0, -1): five hours", Check.told("common;cosy 0 14 1;hunted 0;").run(0, -1), -1);
+    }
+
+    /** Ways that would lead under a cosy, or there ahead of the first row, if one could step off the common. */
+    private static void notOffTheCommon() {
+        c.due("by the next column", Check.told("common;cosy 0 19 2;cosy 2 11 2;hunted 23;sheriff 10;").run(0, -1), -1);
+        c.due("by the column ahead", Check.told("common;cosy 0 11 2;cosy 0 13 2;hunted 19;sheriff 22;sheriff 13;").run(0, -1), -1);
+        c.due("by the row ahead", Check.told("common;cosy 2 1 1;hunted 0;hunted 3;hunted 15;hunted 11;sheriff 8;sheriff 7;").run(0, -1), -1);
+        row(Check.told("common;cosy 2 15 1;hunted 21;hunted 5;sheriff 9;sheriff 17;"), 0, 2, 0, 3, 4);
+        row(Check.told("common;cosy 2 7 2;cosy 1 17 1;hunted 5;sheriff 21;"), 0, 1, 1, 4);
+        row(Check.told("common;cosy 1 20 1;hunted 18;"), 0, 0, 0, 4);
+        row(Check.told("common;cosy 1 3 1;hunted 5;"), 0, 2, 2, 4);
     }
 
     private static void stitches() {

@@ -193,6 +193,8 @@ public final class WhatItIsTest {
     private static void twoByRoom() {
         // no room anywhere: 0 less 9 in the own cell, 0 less 4 five cells off, so the far one is chosen
         pairs(Check.told("common;cosy 3 0 1;cosy 3 5 1;hunted 0;hunted 0;"), 0, 1, 6);
+        // as far as can be: room is yet 1 and none 0 less 1
+        pairs(Check.told("common;cosy 3 23 1;cosy 1 23 1;hunted 0;hunted 0;"), 0, 1, 6);
         // a cosy with one under it holds just one more
         CosyAsylum x = Check.told("common;cosy 0 7 2;cosy 0 23 4;hunted 7;hunted 9;hunted 8;");
         x.hour(1);
@@ -271,6 +273,12 @@ public final class WhatItIsTest {
         x.hour(30);
         c.due("about(0, 2)", x.about(0, 2), 1);
         c.due("years(1, 30)", x.years(1, 30), 30);
+        // the numbers drawn, by what was worked out apart from the class
+        x = Check.told("common;cosy 1 8 1;cosy 2 20 1;hunted 0;hunted 0;hunted 0;hunted 0;sheriff 3;sheriff 22;");
+        int[] seeds = {0, 1, 7, 4242, 65536, 999999}, drawn = {77, 86, 77, 83, 80, 78};
+        for (int i = 0; i < seeds.length; i++) {
+            c.due("years(" + seeds[i] + ", 30)", x.years(seeds[i], 30), drawn[i]);
+        }
         x = Check.told("common;cosy 0 23 4;wear 0 29;hunted 23;sheriff 0;");
         x.hour(1);
         c.due("about(0, 1)", x.about(0, 1), 0);
