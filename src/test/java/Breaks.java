@@ -246,6 +246,10 @@ final class Breaks {
         breaks(16, "it is changed by it", "trial.becomes(now.common); trial.passHours(hours);", "now.common.passHours(hours); trial.becomes(now.common);");
         breaks(16, "HOURS end at 999", "trial.becomes(now.common); trial.passHours(hours);", "trial.becomes(now.common); trial.passHours(Math.min(hours, LAST_HOUR - now.common.hour));");
         breaks(17, "HOURS end at 999", "trial.becomes(now.common); trial.passHours(hours);", "trial.becomes(now.common); trial.passHours(Math.min(hours, LAST_HOUR - now.common.hour));");
+        breaks(18, "HOURS end at 999", "trial.passHours(1); if (trial.covers[p]", "if (trial.hour < LAST_HOUR) { trial.passHours(1); } if (trial.covers[p]");
+        breaks(19, "HOURS end at 999", "trial.passHours(m);", "trial.passHours(Math.min(m, LAST_HOUR - now.common.hour));");
+        breaks(20, "HOURS end at 999", "next.passHourWith(p, choice);", "if (here.hour < LAST_HOUR) { next.passHourWith(p, choice); }");
+        breaks(29, "HOURS end at 999", "trial.passHours(HOURS_OF_A_YEAR);", "trial.passHours(Math.min(HOURS_OF_A_YEAR, LAST_HOUR - now.common.hour));");
         breaks(17, "m may be 41", "if (!isIn(m, 0, MOST_HOURS_LATER) ||", "if (!isIn(m, 0, MOST_HOURS_LATER + 1) ||");
         breaks(17, "m may be -1", "if (!isIn(m, 0, MOST_HOURS_LATER) ||", "if (!isIn(m, -1, MOST_HOURS_LATER) ||");
         breaks(17, "BAD is told by -10", "return bad(BAD); } lookAhead(m);", "return bad(BAD_HERE); } lookAhead(m);");

@@ -270,6 +270,7 @@ public final class EdgesOfWhatItIsTest extends Edge {
             int seed = seeds[i];
             looks("all else as now in each of 30 years, by SEED " + seed, four, x -> x.years(seed, 30), drawn[i]);
         }
-        looks("HOURS go beyond 999", LAST_HOUR.then(x -> x.carry(0, 1)), x -> x.years(0, 1), 0);
+        Ahead last = LAST_HOUR.then(x -> x.darn(0, 40)).then(x -> x.carry(0, 23)).then(x -> x.sheriff(0)).then(x -> x.sheriff(12));
+        looks("HOURS go beyond 999: the two drawn in SHERIFFS' CELLS are TAKEN", last, x -> x.years(0, 1), 2);
     }
 }

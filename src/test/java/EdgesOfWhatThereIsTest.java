@@ -112,6 +112,8 @@ public final class EdgesOfWhatThereIsTest extends Edge {
         answersAll("each of eight that may be undone, of IMAGE 1", eight.then(x -> x.from(1)), EdgesOfWhatThereIsTest::cellsUndone, 9, 8, 7, 6, 5, 4, 3, 2, 1, 1);
         answersAll("each of eight that may be undone, of IMAGE 0", eight.then(x -> x.from(1)).then(x -> x.carry(0, 23)).then(x -> x.from(0)),
             EdgesOfWhatThereIsTest::cellsUndone, 19, 18, 17, 16, 15, 14, 13, 12, 11, 11);
+        answersAll("8 at most may be undone, also going on from one of 8", eight.then(x -> x.from(1)).then(x -> x.carry(0, 23)),
+            EdgesOfWhatThereIsTest::cellsUndone, 23, 9, 8, 7, 6, 5, 4, 3, 2, 2);
         answersAll("what was undone behind it is kept by it", eight.then(x -> cellsUndone(x)).then(x -> x.from(0)), EdgesOfWhatThereIsTest::cellsUndone, 19, 18,
             17, 16, 15, 14, 13, 12, 11, 11);
     }

@@ -5,7 +5,9 @@ import java.lang.reflect.Method;
 import java.lang.reflect.Modifier;
 import java.nio.file.Files;
 import java.nio.file.Path;
+import java.util.ArrayDeque;
 import java.util.Arrays;
+import java.util.Deque;
 import java.util.Set;
 import java.util.TreeSet;
 import java.util.regex.Matcher;
@@ -71,19 +73,21 @@ public final class FaceTest {
         for (String f : FACE) {
             names.add(f.substring(f.indexOf(' ') + 1, f.indexOf('(')));
         }
-        must(CosyAsylum.class.getDeclaredClasses().length <= 11, "there are more than some twelve classes");
-        for (Method m : CosyAsylum.class.getDeclaredMethods()) {
-            must(!Modifier.isPrivate(m.getModifiers()) || !names.contains(m.getName()), m + " bears a public name");
-        }
+        must(CosyAsylum.class.getDeclaredClasses().length <= 12, "there are more than some twelve classes");
+        methods(CosyAsylum.class, names);
         statics(CosyAsylum.class);
         for (Class<?> c : CosyAsylum.class.getDeclaredClasses()) {
             int mods = c.getModifiers();
             must(Modifier.isStatic(mods) && !Modifier.isPublic(mods) && !Modifier.isProtected(mods), c + " is not as rule 1 and 2 want");
-            for (Method m : c.getDeclaredMethods()) {
-                must(!names.contains(m.getName()), m + " bears a public name");
-                must(m.getParameterCount() <= 7, m + " takes more than seven");
-            }
+            methods(c, names);
             statics(c);
+        }
+    }
+
+    private static void methods(Class<?> c, Set<String> names) {
+        for (Method m : c.getDeclaredMethods()) {
+            must(!Modifier.isPrivate(m.getModifiers()) || m.isSynthetic() || !names.contains(m.getName()), m + " bears a public name");
+            must(m.getParameterCount() <= 7, m + " takes more than seven");
         }
     }
 
@@ -93,28 +97,63 @@ public final class FaceTest {
             must(!Modifier.isStatic(f.getModifiers()) || Modifier.isFinal(f.getModifiers()), f + " is static and not final");
             own += Modifier.isStatic(f.getModifiers()) ? 0 : 1;
         }
-        must(own <= 20, c + " has more than some twenty fields");
+        must(own <= 22, c + " has more than some twenty fields");
     }
 
     private static void source(String text) {
         String code = text.replaceAll("(?s)/\\*.*?\\*/", " ").replaceAll("//[^\n]*", " ");
-        String[] banned = {"\\bthrow\\b", "\\btry\\b", "\\bcatch\\b", "\\bsynchronized\\b", "\\bassert\\b", "->", "::", "\\bpackage\\b",
-            "\\bimport\\b", "Exact\\b", "\\bnew\\s+\\w+\\s*\\([^)]*\\)\\s*\\{", "\\bfloat\\b", "\\bdouble\\b", "\\bwhile\\s*\\(\\s*true", "\\bThread\\b",
-            "\\bRandom\\b", "currentTimeMillis", "nanoTime"};
+        String[] banned = {"\\bthrow\\b", "\\btry\\b", "\\bcatch\\b", "\\bsynchronized\\b", "\\bassert\\b", "::", "\\bpackage\\b",
+            "\\w+Exact\\b", "\\bnew\\s+\\w+\\s*\\([^)]*\\)\\s*\\{", "\\bstatic\\s*\\{", "\\bThread\\b", "\\bRandom\\b", "\\brandom\\b",
+            "currentTimeMillis", "nanoTime"};
         for (String b : banned) {
             must(!Pattern.compile(b).matcher(code).find(), "the source has " + b);
         }
+        must(!code.replaceAll("\\b(case\\b[^:;{}]*|default\\s*)->", " ").contains("->"), "the source has a lambda");
         must(code.chars().allMatch(ch -> ch < 128), "the source has signs beyond 127");
+        library(code);
+        methodsAreShort(code);
+    }
+
+    /** What rule 4 lists, and no more. */
+    private static void library(String code) {
         Matcher call = Pattern.compile("\\b(System|Arrays|Math|Integer|Long)\\.(\\w+)").matcher(code);
+        Set<String> numbers = Set.of("compare", "max", "min", "abs", "bitCount", "floorDiv", "floorMod", "signum", "sum", "numberOfTrailingZeros",
+            "numberOfLeadingZeros", "highestOneBit", "lowestOneBit", "compareUnsigned", "divideUnsigned", "remainderUnsigned", "rotateLeft", "rotateRight",
+            "reverse", "reverseBytes", "MAX_VALUE", "MIN_VALUE");
         while (call.find()) {
-            must(Set.of("System.arraycopy", "Math.abs", "Math.max", "Math.min", "Integer.bitCount").contains(call.group()),
-                "the source calls " + call.group());
+            boolean listed = switch (call.group(1)) {
+                case "System" -> call.group(2).equals("arraycopy");
+                case "Arrays" -> Set.of("copyOf", "copyOfRange", "fill").contains(call.group(2));
+                default -> numbers.contains(call.group(2));
+            };
+            must(listed, "the source calls " + call.group());
         }
-        int length = 0;
-        for (String line : code.split("\n")) {
-            length = line.matches("    }|        }") ? 0 : length + 1;
-            must(length <= 90, "a method seems longer than some sixty lines at: " + line);
-            length = line.isBlank() ? 0 : length;
+        Matcher imports = Pattern.compile("\\bimport\\s+([\\w.*]+)").matcher(code);
+        while (imports.find()) {
+            must(Set.of("java.util.ArrayList", "java.util.List", "java.util.Arrays", "java.util.Iterator", "java.util.*").contains(imports.group(1)),
+                "the source imports " + imports.group(1));
+        }
+    }
+
+    /** A method is a block right inside a class's block, that is none itself. */
+    private static void methodsAreShort(String code) {
+        Deque<Boolean> classes = new ArrayDeque<>();
+        Deque<Integer> begins = new ArrayDeque<>();
+        int header = 0, line = 1;
+        for (int i = 0; i < code.length(); i++) {
+            char ch = code.charAt(i);
+            if (ch == '\n') {
+                line++;
+            } else if (ch == '{') {
+                boolean isClass = code.substring(header, i).matches("(?s).*\\b(class|record|enum|interface)\\s+\\w+.*");
+                classes.push(isClass);
+                begins.push(line);
+            } else if (ch == '}' && !classes.isEmpty()) {
+                boolean isClass = classes.pop();
+                int length = line - begins.pop() + 1;
+                must(isClass || classes.isEmpty() || !classes.peek() || length <= 65, "a method is longer than some sixty lines, up to line " + line);
+            }
+            header = ch == '{' || ch == '}' || ch == ';' ? i + 1 : header;
         }
     }
 }
