@@ -178,7 +178,9 @@ public abstract class Edge {
 
     final void rangeBy(String number, int least, int most, long answer, Ahead ahead, CallWith call) {
         leastBy(number, least, answer, ahead, call);
-        mayBe(number + " may be " + most, ahead, x -> call.on(x, most));
+        if (most > least) {
+            mayBe(number + " may be " + most, ahead, x -> call.on(x, most));
+        }
         badBy(number + " may not be " + (most + 1), ahead, x -> call.on(x, most + 1), answer);
         badBy(number + " may not be as great as can be", ahead, x -> call.on(x, Integer.MAX_VALUE), answer);
     }

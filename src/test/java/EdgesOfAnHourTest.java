@@ -124,8 +124,8 @@ public final class EdgesOfAnHourTest extends Edge {
         chases("of like ones the first, by rows", "common;hunted 12;hunted 2;sheriff 0;", 6);
         chases("the farthest of all is one", "common;hunted 23;sheriff 0;", 1);
         chases("one UNDER is passed over for a farther free one", "common;cosy 0 2 1;hunted 2;hunted 18;sheriff 0;", 6);
-        chases("as far by columns as by rows: the column", "common;hunted 7;sheriff 0;", 1);
-        chases("further by rows: the row", "common;hunted 13;sheriff 0;", 6);
+        chases("a SHERIFF as far by columns as by rows: the column", "common;hunted 7;sheriff 0;", 1);
+        chases("a SHERIFF further by rows: the row", "common;hunted 13;sheriff 0;", 6);
         chases("THE HUNTED go first, the SHERIFF towards where one is then", "common;cosy 0 12 1;hunted 7;sheriff 1;", 0);
     }
 

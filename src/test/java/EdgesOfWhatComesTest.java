@@ -59,9 +59,9 @@ public final class EdgesOfWhatComesTest extends Edge {
             int what = i;
             looks("in an empty common 0: " + what, EMPTY, x -> x.fate(40, what), 0);
         }
-        looks("TAKEN behind 0 HOURS: now", BUSY, x -> x.fate(0, 0), 1);
-        looks("who behind 0 HOURS", BUSY, x -> x.fate(0, 1), 2);
-        looks("UNDER behind 0 HOURS", BUSY, x -> x.fate(0, 2), 1);
+        looks("how many are TAKEN now: behind 0 HOURS", BUSY, x -> x.fate(0, 0), 1);
+        looks("who is TAKEN now: behind 0 HOURS", BUSY, x -> x.fate(0, 1), 2);
+        looks("how many are UNDER now: behind 0 HOURS", BUSY, x -> x.fate(0, 2), 1);
         int[] many = {0, 1, 1, 1, 2}, who = {0, 2, 2, 2, 6}, under = {0, 1, 1, 1, 1};
         for (int i = 0; i < many.length; i++) {
             int m = i;
