@@ -1208,7 +1208,7 @@ public final class CosyAsylum {
             }
             first.becomes(start);
             for (int hours = 1; hours <= MOST_STEPS; hours++) {
-                if (isUnderBehind(p, 0, hours)) {
+                if (isUnderBehind(this, p, 0, hours)) {
                     return hours;
                 }
             }
@@ -1216,8 +1216,8 @@ public final class CosyAsylum {
         }
 
         /** Whether a way goes on from the stage so that p is under behind these hours; choices has the first. */
-        private boolean isUnderBehind(int p, int stage, int hours) {
-            Common here = stageAt(stage), next = stageAt(stage + 1);
+        private static boolean isUnderBehind(Escape way, int p, int stage, int hours) {
+            Common here = way.stageAt(stage), next = way.stageAt(stage + 1);
             if (here != null && stage == hours) {
                 return here.covers[p] >= 0;
             }
@@ -1230,10 +1230,10 @@ public final class CosyAsylum {
             }
             for (int choice = 0; choice < CHOICES; choice++) {
                 if (Cells.beside(here.huntedCells[p], choice) != NONE) {
-                    choices[stage] = choice;
+                    way.choices[stage] = choice;
                     next.becomes(here);
                     next.passHourWith(p, choice);
-                    if (isUnderBehind(p, stage + 1, hours)) {
+                    if (isUnderBehind(way, p, stage + 1, hours)) {
                         return true;
                     }
                 }

@@ -112,6 +112,18 @@ public final class FaceTest {
         must(code.chars().allMatch(ch -> ch < 128), "the source has signs beyond 127");
         library(code);
         methodsAreShort(code);
+        recursionIsStatic(code);
+    }
+
+    /** Rule 8: a method that calls itself is private and static. A call of another object's method has a dot ahead. */
+    private static void recursionIsStatic(String code) {
+        Matcher method = Pattern.compile("(?m)^ +((?:\\w+ )*)[\\w\\[\\]]+ (\\w+)\\([^()]*\\) \\{$").matcher(code);
+        while (method.find()) {
+            int end = code.indexOf("\n" + " ".repeat(method.start(1) - method.start()) + "}\n", method.end());
+            String body = code.substring(method.end(), Math.max(end, method.end()));
+            boolean callsItself = Pattern.compile("(?<![.\\w])(?:this\\.)?" + method.group(2) + "\\(").matcher(body).find();
+            must(!callsItself || method.group(1).equals("private static "), method.group(2) + " calls itself and is not private and static");
+        }
     }
 
     /** What rule 4 lists, and no more. */
